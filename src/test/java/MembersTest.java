@@ -16,6 +16,7 @@ public final class MembersTest {
         promise11SwitchedWhoCounts();
         promise11SwitchedBySourceAndGroup();
         promise11SwitchedRoot();
+        promise11SwitchedNotThroughASourceTree();
         promises10And11Refuse();
         Check.end();
     }
@@ -222,6 +223,24 @@ public final class MembersTest {
         Check.same("the root counts and switches at once", Check.set(0), net.switched(2, 0));
         Check.same("and the packet goes on through the source tree", 1, net.queued());
         Check.same("to the router 1", 1, net.nextTo());
+    }
+
+    private static void promise11SwitchedNotThroughASourceTree() {
+        for (int group = 0; group < 4; group++) {
+            for (int source = 0; source < 2; source++) {
+                Multidell net = Check.made(Nets::chain);
+                net.setLimit(1);
+                net.join(3, group);
+                net.send(source, group);
+                net.followAll();
+                net.setCandidate(0, false);
+                net.join(2, group);
+                net.send(source, group);
+                net.followAll();
+                Check.same("2 lies on the tree of the source", Check.set(2, 3), net.received(1));
+                Check.same("but does not count", Check.set(3), net.switched(source, group));
+            }
+        }
     }
 
     private static void promises10And11Refuse() {

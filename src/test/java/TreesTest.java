@@ -7,11 +7,13 @@ public final class TreesTest {
         promise12Branches();
         promise12BranchesLeavingToo();
         promise12BranchesWithoutTree();
+        promise12BranchesOfALongChain();
         promise13SourceBranches();
         promise13SourceBranchesLeavingToo();
         promise14Leaving();
         promise14LeavingOnlyWhenNotNeeded();
         promise14LeavingKeepsItsSecond();
+        promise14LeavingEdges();
         promises12And13Refuse();
         Check.end();
     }
@@ -51,6 +53,22 @@ public final class TreesTest {
         net.setCandidate(0, true);
         Check.same("the members want it when it comes", Check.set(2), net.branches(1, 0));
         Check.same("3 does not", 0, net.branches(2, 0));
+    }
+
+    private static void promise12BranchesOfALongChain() {
+        Multidell net = new Multidell();
+        net.setCandidate(9, true);
+        net.join(0, 0);
+        for (int router = 0; router < 9; router++) {
+            net.setLink(router, router + 1, 20);
+        }
+        for (int router = 1; router < 10; router++) {
+            Check.same("each to the one before it", Check.set(router - 1), net.branches(router, 0));
+        }
+        net.leave(0, 0);
+        Check.same("one after the other", 9, net.pass(27));
+        net.join(0, 0);
+        Check.same("grafted up to the root", Check.set(8), net.branches(9, 0));
     }
 
     private static void promise13SourceBranches() {
@@ -156,6 +174,25 @@ public final class TreesTest {
         net.leave(1, 0);
         Check.same("a member that is needed for others leaves", 2, net.leaving());
         Check.same("the first second counts", 2, net.pass(2));
+    }
+
+    private static void promise14LeavingEdges() {
+        for (int group = 0; group < 4; group++) {
+            for (int router = 0; router < 10; router += 9) {
+                int root = 9 - router;
+                Multidell net = new Multidell();
+                net.setLimit(1);
+                net.setLink(0, 9, 1);
+                net.setCandidate(root, true);
+                net.join(router, group);
+                net.send(root, group);
+                net.followAll();
+                Check.same("in the source tree", Check.set(router), net.sourceBranches(root, root, group));
+                net.leave(router, group);
+                Check.same("the first and the last router", 2, net.leaving());
+                Check.same("both go", 2, net.pass(3));
+            }
+        }
     }
 
     private static void promises12And13Refuse() {

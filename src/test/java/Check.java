@@ -1,29 +1,41 @@
-import java.util.function.Consumer;
-
 /** What the tests share: counting, comparing, and telling what differs. */
 final class Check {
-    private static final int[] ROUTER_EDGES = {-1, 10, Integer.MIN_VALUE, Integer.MAX_VALUE};
-    private static final int[] GROUP_EDGES = {-1, 4, Integer.MIN_VALUE, Integer.MAX_VALUE};
+    private static final int ENOUGH_WRONG = 40;
+    private static final long MOST_MILLISECONDS = 300_000;
 
     private static int checks;
     private static int wrong;
+    private static String sentence = "";
+    private static int checksBefore;
+
+    // A class that is wrong may never end a loop; the test that meets it ends and fails all the same.
+    static {
+        Thread watch = new Thread(Check::endWhenItLastsTooLong);
+        watch.setDaemon(true);
+        watch.start();
+    }
 
     private Check() {
     }
 
-    static int[] noRouters() {
-        return ROUTER_EDGES.clone();
+    /** From here on the looks are about this sentence of the document; each one named must get a look. */
+    static void sentence(int promise, String words) {
+        endSentence();
+        sentence = "promise " + promise + ", \"" + words + "\": ";
+        checksBefore = checks;
     }
 
-    static int[] noGroups() {
-        return GROUP_EDGES.clone();
+    private static void endSentence() {
+        if (!sentence.isEmpty() && checks == checksBefore) {
+            wrong++;
+            System.out.println(sentence + "nothing was looked at");
+        }
     }
 
     static void same(String what, long due, long got) {
         checks++;
         if (due != got) {
-            wrong++;
-            System.out.println(what + ": answered " + got + ", due is " + due);
+            tellWrong(what, String.valueOf(due), String.valueOf(got));
         }
     }
 
@@ -34,39 +46,40 @@ final class Check {
     static void same(String what, String due, String got) {
         checks++;
         if (!due.equals(got)) {
-            wrong++;
-            System.out.println(what + ": answered " + got + ", due is " + due);
+            tellWrong(what, due, got);
         }
     }
 
-    /**
-     * The call throws just this exception, and changes nothing: every question is put to an object
-     * of its own that had the failing call and to one that had not, so that none is used too long.
-     */
-    static void refused(String what, Class<? extends RuntimeException> due,
-            Consumer<Multidell> before, Consumer<Multidell> call) {
-        same(what + " throws", due.getName(), nameOfThrown(made(before), call));
-        for (int question = 0; question < Question.count(); question++) {
-            Multidell tried = made(before);
-            nameOfThrown(tried, call);
-            same(what + " leaves " + Question.name(question),
-                    Question.ask(made(before), question), Question.ask(tried, question));
-        }
+    /** The call throws an exception of just this class; what it leaves behind is looked at by State. */
+    static void throwing(String what, Class<? extends RuntimeException> due, Runnable call) {
+        same(what + " throws", due.getName(), nameOfThrown(call));
     }
 
-    static Multidell made(Consumer<Multidell> before) {
-        Multidell net = new Multidell();
-        before.accept(net);
-        return net;
-    }
-
-    private static String nameOfThrown(Multidell net, Consumer<Multidell> call) {
+    static String nameOfThrown(Runnable call) {
         try {
-            call.accept(net);
+            call.run();
             return "nothing";
         } catch (RuntimeException thrown) {
             return thrown.getClass().getName();
         }
+    }
+
+    private static void tellWrong(String what, String due, String got) {
+        wrong++;
+        System.out.println(sentence + what + ": answered " + got + ", due is " + due);
+        if (wrong >= ENOUGH_WRONG) {
+            end();
+        }
+    }
+
+    private static void endWhenItLastsTooLong() {
+        try {
+            Thread.sleep(MOST_MILLISECONDS);
+        } catch (InterruptedException nobodyDoesThat) {
+            return;
+        }
+        System.out.println(sentence + "no end after " + MOST_MILLISECONDS + " milliseconds");
+        Runtime.getRuntime().halt(1);
     }
 
     static int set(int... routers) {
@@ -79,6 +92,7 @@ final class Check {
 
     /** Ends the program: with 1 if something was not as due, or nothing was looked at. */
     static void end() {
+        endSentence();
         System.out.println(checks + " answers looked at, " + wrong + " not as due");
         if (wrong != 0 || checks == 0) {
             System.exit(1);

@@ -7,12 +7,11 @@ public final class FloodTest {
         promise25FloodMembers();
         promise26FloodCopies();
         promise26FloodCopiesInAMesh();
-        promises25And26Refuse();
         Check.end();
     }
 
     private static void promise25FloodMembers() {
-        Multidell net = Check.made(Nets::chain);
+        Multidell net = Nets.made(Nets::chain);
         net.setLink(8, 9, 3);
         net.join(0, 0);
         net.join(3, 0);
@@ -33,7 +32,7 @@ public final class FloodTest {
     }
 
     private static void promise26FloodCopies() {
-        Multidell net = Check.made(Nets::chain);
+        Multidell net = Nets.made(Nets::chain);
         net.setLink(8, 9, 3);
         Check.same("from one end", 3, net.floodCopies(0));
         Check.same("from the midst", 3, net.floodCopies(1));
@@ -55,17 +54,6 @@ public final class FloodTest {
         }
         for (int source = 0; source < 10; source++) {
             Check.same("all links both ways, less one each for the nine", 81, net.floodCopies(source));
-        }
-    }
-
-    private static void promises25And26Refuse() {
-        Class<? extends RuntimeException> index = IndexOutOfBoundsException.class;
-        for (int none : Check.noRouters()) {
-            Check.refused("floodMembers, source", index, Nets::lively, net -> net.floodMembers(none, 0));
-            Check.refused("floodCopies", index, Nets::lively, net -> net.floodCopies(none));
-        }
-        for (int none : Check.noGroups()) {
-            Check.refused("floodMembers, group", index, Nets::lively, net -> net.floodMembers(0, none));
         }
     }
 }

@@ -9,18 +9,13 @@ public final class LinksTest {
         promise2SetLinkAnswers();
         promise2SetLinkBuildsAnew();
         promise2SetLinkKeepsTrees();
-        promise2SetLinkRefuses();
         promise3SetCandidateAnswers();
         promise3SetCandidateBuildsAnew();
-        promise3SetCandidateRefuses();
         promise4SetLimitAnswers();
         promise4SetLimitCountsFromNowOn();
-        promise4SetLimitRefuses();
         promise5Distance();
         promise6NextHop();
-        promises5And6Refuse();
         promise7Rendezvous();
-        promise7RendezvousRefuses();
         Check.end();
     }
 
@@ -79,7 +74,7 @@ public final class LinksTest {
     }
 
     private static void promise2SetLinkBuildsAnew() {
-        Multidell net = Check.made(Nets::chain);
+        Multidell net = Nets.made(Nets::chain);
         net.join(3, 0);
         net.join(2, 0);
         net.leave(3, 0);
@@ -102,29 +97,13 @@ public final class LinksTest {
     }
 
     private static void promise2SetLinkKeepsTrees() {
-        Multidell net = Check.made(Nets::chain);
+        Multidell net = Nets.made(Nets::chain);
         net.join(3, 0);
         net.leave(3, 0);
         Check.same("the same cost", 1, net.setLink(2, 1, 1));
         Check.same("no link before and after", 0, net.setLink(5, 6, 0));
         Check.same("no tree is built anew", 1, net.leaving());
         Check.same("no tree is built anew", Check.set(3), net.branches(2, 0));
-    }
-
-    private static void promise2SetLinkRefuses() {
-        Class<? extends RuntimeException> index = IndexOutOfBoundsException.class;
-        Class<? extends RuntimeException> argument = IllegalArgumentException.class;
-        for (int none : Check.noRouters()) {
-            Check.refused("setLink, no router", index, Nets::lively, net -> net.setLink(none, 1, 1));
-            Check.refused("setLink, no other", index, Nets::lively, net -> net.setLink(1, none, 1));
-            Check.refused("setLink, index first", index, Nets::lively, net -> net.setLink(none, none, 1));
-            Check.refused("setLink, index first", index, Nets::lively, net -> net.setLink(0, none, 21));
-        }
-        Check.refused("setLink, both the same", argument, Nets::lively, net -> net.setLink(3, 3, 1));
-        Check.refused("setLink, both the same", argument, Nets::lively, net -> net.setLink(3, 3, 0));
-        for (int cost : new int[] {-1, 21, Integer.MIN_VALUE, Integer.MAX_VALUE}) {
-            Check.refused("setLink, cost", argument, Nets::lively, net -> net.setLink(0, 1, cost));
-        }
     }
 
     private static void promise3SetCandidateAnswers() {
@@ -139,7 +118,7 @@ public final class LinksTest {
     }
 
     private static void promise3SetCandidateBuildsAnew() {
-        Multidell net = Check.made(Nets::chain);
+        Multidell net = Nets.made(Nets::chain);
         net.join(3, 0);
         net.join(1, 0);
         net.leave(3, 0);
@@ -161,15 +140,6 @@ public final class LinksTest {
         Check.same("a tree again", Check.set(1), net.branches(2, 0));
     }
 
-    private static void promise3SetCandidateRefuses() {
-        for (int none : Check.noRouters()) {
-            Check.refused("setCandidate", IndexOutOfBoundsException.class, Nets::lively,
-                    net -> net.setCandidate(none, true));
-            Check.refused("setCandidate", IndexOutOfBoundsException.class, Nets::lively,
-                    net -> net.setCandidate(none, false));
-        }
-    }
-
     private static void promise4SetLimitAnswers() {
         Multidell net = new Multidell();
         Check.same("first limit", 3, net.setLimit(1));
@@ -179,7 +149,7 @@ public final class LinksTest {
     }
 
     private static void promise4SetLimitCountsFromNowOn() {
-        Multidell net = Check.made(Nets::chain);
+        Multidell net = Nets.made(Nets::chain);
         net.join(2, 0);
         net.send(3, 0);
         net.send(3, 0);
@@ -199,13 +169,6 @@ public final class LinksTest {
         Check.same("received when it is followed, not when it is sent", 0, net.switched(1, 0));
         net.followAll();
         Check.same("the limit is met", Check.set(2), net.switched(1, 0));
-    }
-
-    private static void promise4SetLimitRefuses() {
-        for (int limit : new int[] {0, -1, 101, Integer.MIN_VALUE, Integer.MAX_VALUE}) {
-            Check.refused("setLimit", IllegalArgumentException.class, Nets::lively,
-                    net -> net.setLimit(limit));
-        }
     }
 
     private static void promise5Distance() {
@@ -252,18 +215,6 @@ public final class LinksTest {
         Check.same("from nowhere", -1, net.nextHop(1, 0));
     }
 
-    private static void promises5And6Refuse() {
-        Class<? extends RuntimeException> index = IndexOutOfBoundsException.class;
-        for (int none : Check.noRouters()) {
-            Check.refused("distance", index, Nets::lively, net -> net.distance(none, 0));
-            Check.refused("distance", index, Nets::lively, net -> net.distance(0, none));
-            Check.refused("distance", index, Nets::lively, net -> net.distance(none, none));
-            Check.refused("nextHop", index, Nets::lively, net -> net.nextHop(none, 0));
-            Check.refused("nextHop", index, Nets::lively, net -> net.nextHop(0, none));
-            Check.refused("nextHop", index, Nets::lively, net -> net.nextHop(none, none));
-        }
-    }
-
     private static void promise7Rendezvous() {
         // The candidates of each group, the greatest remainder first, as reckoned by hand.
         int[][] order = {{6, 7, 8, 9, 0, 1, 2, 3, 4, 5}, {1, 8, 6, 4, 2, 0, 9, 7, 5, 3},
@@ -280,13 +231,6 @@ public final class LinksTest {
             }
             net.setCandidate(order[group][9], false);
             Check.same("rendezvous, none", -1, net.rendezvous(group));
-        }
-    }
-
-    private static void promise7RendezvousRefuses() {
-        for (int none : Check.noGroups()) {
-            Check.refused("rendezvous", IndexOutOfBoundsException.class, Nets::lively,
-                    net -> net.rendezvous(none));
         }
     }
 }

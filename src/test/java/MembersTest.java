@@ -6,18 +6,15 @@ public final class MembersTest {
     public static void main(String[] args) {
         promise8Join();
         promise8JoinGrafts();
-        promise8JoinRefuses();
         promise9Leave();
         promise9LeaveForgetsSwitches();
         promise9LeaveForgetsCounts();
-        promise9LeaveRefuses();
         promise10Members();
         promise11SwitchedAtTheLimit();
         promise11SwitchedWhoCounts();
         promise11SwitchedBySourceAndGroup();
         promise11SwitchedRoot();
         promise11SwitchedNotThroughASourceTree();
-        promises10And11Refuse();
         Check.end();
     }
 
@@ -32,7 +29,7 @@ public final class MembersTest {
     }
 
     private static void promise8JoinGrafts() {
-        Multidell net = Check.made(Nets::chain);
+        Multidell net = Nets.made(Nets::chain);
         net.join(3, 1);
         Check.same("from 0", Check.set(1), net.branches(0, 1));
         Check.same("from 1", Check.set(2), net.branches(1, 1));
@@ -51,19 +48,6 @@ public final class MembersTest {
         Check.same("no branch to the root", 0, net.branches(1, 1) & Check.set(0));
     }
 
-    private static void promise8JoinRefuses() {
-        Class<? extends RuntimeException> index = IndexOutOfBoundsException.class;
-        for (int none : Check.noRouters()) {
-            Check.refused("join, no router", index, Nets::lively, net -> net.join(none, 0));
-        }
-        for (int none : Check.noGroups()) {
-            Check.refused("join, no group", index, Nets::lively, net -> net.join(2, none));
-            Check.refused("join, neither", index, Nets::lively, net -> net.join(-1, none));
-        }
-        Check.refused("join, a member", IllegalStateException.class, Nets::lively,
-                net -> net.join(2, 0));
-    }
-
     private static void promise9Leave() {
         Multidell net = new Multidell();
         net.join(0, 2);
@@ -78,7 +62,7 @@ public final class MembersTest {
     }
 
     private static void promise9LeaveForgetsSwitches() {
-        Multidell net = Check.made(Nets::chain);
+        Multidell net = Nets.made(Nets::chain);
         net.setLimit(1);
         net.join(2, 0);
         net.join(1, 0);
@@ -102,7 +86,7 @@ public final class MembersTest {
     }
 
     private static void promise9LeaveForgetsCounts() {
-        Multidell net = Check.made(Nets::chain);
+        Multidell net = Nets.made(Nets::chain);
         net.join(2, 0);
         net.join(2, 1);
         for (int packet = 0; packet < 2; packet++) {
@@ -127,21 +111,6 @@ public final class MembersTest {
         Check.same("two of another source", 0, net.switched(1, 0));
     }
 
-    private static void promise9LeaveRefuses() {
-        Class<? extends RuntimeException> index = IndexOutOfBoundsException.class;
-        for (int none : Check.noRouters()) {
-            Check.refused("leave, no router", index, Nets::lively, net -> net.leave(none, 0));
-        }
-        for (int none : Check.noGroups()) {
-            Check.refused("leave, no group", index, Nets::lively, net -> net.leave(2, none));
-            Check.refused("leave, neither", index, Nets::lively, net -> net.leave(10, none));
-        }
-        Check.refused("leave, no member", IllegalStateException.class, Nets::lively,
-                net -> net.leave(4, 0));
-        Check.refused("leave, a member of another group", IllegalStateException.class, Nets::lively,
-                net -> net.leave(2, 1));
-    }
-
     private static void promise10Members() {
         Multidell net = new Multidell();
         net.join(0, 0);
@@ -158,7 +127,7 @@ public final class MembersTest {
     }
 
     private static void promise11SwitchedAtTheLimit() {
-        Multidell net = Check.made(Nets::chain);
+        Multidell net = Nets.made(Nets::chain);
         net.join(1, 0);
         net.join(3, 0);
         net.send(2, 0);
@@ -180,7 +149,7 @@ public final class MembersTest {
     }
 
     private static void promise11SwitchedWhoCounts() {
-        Multidell net = Check.made(Nets::chain);
+        Multidell net = Nets.made(Nets::chain);
         net.setLimit(1);
         net.join(1, 0);
         net.send(1, 0);
@@ -198,7 +167,7 @@ public final class MembersTest {
     }
 
     private static void promise11SwitchedBySourceAndGroup() {
-        Multidell net = Check.made(Nets::chain);
+        Multidell net = Nets.made(Nets::chain);
         net.join(3, 0);
         net.join(3, 2);
         net.send(0, 0);
@@ -216,7 +185,7 @@ public final class MembersTest {
     }
 
     private static void promise11SwitchedRoot() {
-        Multidell net = Check.made(Nets::chain);
+        Multidell net = Nets.made(Nets::chain);
         net.setLimit(1);
         net.join(0, 0);
         net.send(2, 0);
@@ -228,7 +197,7 @@ public final class MembersTest {
     private static void promise11SwitchedNotThroughASourceTree() {
         for (int group = 0; group < 4; group++) {
             for (int source = 0; source < 2; source++) {
-                Multidell net = Check.made(Nets::chain);
+                Multidell net = Nets.made(Nets::chain);
                 net.setLimit(1);
                 net.join(3, group);
                 net.send(source, group);
@@ -240,17 +209,6 @@ public final class MembersTest {
                 Check.same("2 lies on the tree of the source", Check.set(2, 3), net.received(1));
                 Check.same("but does not count", Check.set(3), net.switched(source, group));
             }
-        }
-    }
-
-    private static void promises10And11Refuse() {
-        Class<? extends RuntimeException> index = IndexOutOfBoundsException.class;
-        for (int none : Check.noRouters()) {
-            Check.refused("switched, source", index, Nets::lively, net -> net.switched(none, 0));
-        }
-        for (int none : Check.noGroups()) {
-            Check.refused("members", index, Nets::lively, net -> net.members(none));
-            Check.refused("switched, group", index, Nets::lively, net -> net.switched(0, none));
         }
     }
 }

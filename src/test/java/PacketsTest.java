@@ -8,7 +8,6 @@ public final class PacketsTest {
         promise15SendAtOnce();
         promise15SendOutOfReach();
         promise15SendSwitchesBeforeTheSourceTree();
-        promise15SendRefuses();
         promise16FollowReceivedAndPassed();
         promise16FollowLost();
         promise16FollowDropped();
@@ -21,12 +20,11 @@ public final class PacketsTest {
         promise20Received();
         promise21Doubles();
         promise22Wasted();
-        promises20And21Refuse();
         Check.end();
     }
 
     private static void promise15SendNumbers() {
-        Multidell net = Check.made(Nets::lively);
+        Multidell net = Nets.made(Nets::lively);
         Check.same("the next number", 6, net.send(9, 3));
         Check.same("the next number", 7, net.send(0, 0));
         Multidell other = new Multidell();
@@ -37,7 +35,7 @@ public final class PacketsTest {
     }
 
     private static void promise15SendAtOnce() {
-        Multidell net = Check.made(Nets::chain);
+        Multidell net = Nets.made(Nets::chain);
         net.join(0, 0);
         net.join(2, 0);
         net.join(3, 0);
@@ -57,7 +55,7 @@ public final class PacketsTest {
     }
 
     private static void promise15SendOutOfReach() {
-        Multidell net = Check.made(Nets::chain);
+        Multidell net = Nets.made(Nets::chain);
         net.setLink(7, 8, 1);
         net.join(0, 0);
         net.join(3, 0);
@@ -77,7 +75,7 @@ public final class PacketsTest {
     }
 
     private static void promise15SendSwitchesBeforeTheSourceTree() {
-        Multidell net = Check.made(Nets::chain);
+        Multidell net = Nets.made(Nets::chain);
         net.setLimit(1);
         net.join(0, 0);
         net.join(1, 0);
@@ -91,38 +89,8 @@ public final class PacketsTest {
         Check.same("both got it twice", 2, net.doubles(0));
     }
 
-    private static void promise15SendRefuses() {
-        Class<? extends RuntimeException> index = IndexOutOfBoundsException.class;
-        for (int none : Check.noRouters()) {
-            Check.refused("send, source", index, Nets::lively, net -> net.send(none, 0));
-        }
-        for (int none : Check.noGroups()) {
-            Check.refused("send, group", index, Nets::lively, net -> net.send(0, none));
-        }
-        Multidell net = Check.made(Nets::chain);
-        net.join(1, 0);
-        for (int packet = 0; packet < 200; packet++) {
-            net.send(0, 0);
-            net.followAll();
-        }
-        Check.same("200 packets were sent", "IllegalStateException", nameOfThrownBySend(net, 0, 0));
-        Check.same("index first", "IndexOutOfBoundsException", nameOfThrownBySend(net, 10, 0));
-        Check.same("index first", "IndexOutOfBoundsException", nameOfThrownBySend(net, 0, -1));
-        Check.same("nothing is queued", 0, net.queued());
-        Check.same("the last one", Check.set(1), net.received(199));
-    }
-
-    private static String nameOfThrownBySend(Multidell net, int source, int group) {
-        try {
-            net.send(source, group);
-            return "nothing";
-        } catch (RuntimeException thrown) {
-            return thrown.getClass().getSimpleName();
-        }
-    }
-
     private static void promise16FollowReceivedAndPassed() {
-        Multidell net = Check.made(Nets::chain);
+        Multidell net = Nets.made(Nets::chain);
         Check.same("nothing to follow", Multidell.NOTHING, net.follow());
         net.join(1, 0);
         net.join(3, 0);
@@ -144,7 +112,7 @@ public final class PacketsTest {
     }
 
     private static void promise16FollowLost() {
-        Multidell net = Check.made(Nets::chain);
+        Multidell net = Nets.made(Nets::chain);
         net.join(2, 0);
         net.send(0, 0);
         net.setLink(0, 1, 0);
@@ -165,7 +133,7 @@ public final class PacketsTest {
     }
 
     private static void promise16FollowDropped() {
-        Multidell net = Check.made(Nets::chain);
+        Multidell net = Nets.made(Nets::chain);
         net.join(1, 0);
         net.join(2, 0);
         net.send(0, 0);
@@ -185,7 +153,7 @@ public final class PacketsTest {
     }
 
     private static void promise16FollowTheTreeOfNow() {
-        Multidell net = Check.made(Nets::chain);
+        Multidell net = Nets.made(Nets::chain);
         net.join(1, 0);
         net.send(0, 0);
         net.setCandidate(9, true);
@@ -206,7 +174,7 @@ public final class PacketsTest {
     }
 
     private static void promise16FollowLeavingBranches() {
-        Multidell net = Check.made(Nets::chain);
+        Multidell net = Nets.made(Nets::chain);
         net.join(2, 0);
         net.leave(2, 0);
         net.send(0, 0);
@@ -219,7 +187,7 @@ public final class PacketsTest {
     }
 
     private static void promise16FollowFirstInFirstOut() {
-        Multidell net = Check.made(Nets::star);
+        Multidell net = Nets.made(Nets::star);
         net.send(0, 0);
         for (int router = 1; router < 10; router++) {
             Check.same("by rising numbers", router, net.nextTo());
@@ -240,7 +208,7 @@ public final class PacketsTest {
     }
 
     private static void promise17FollowAll() {
-        Multidell net = Check.made(Nets::chain);
+        Multidell net = Nets.made(Nets::chain);
         net.join(3, 0);
         Check.same("none", 0, net.followAll());
         net.send(0, 0);
@@ -257,7 +225,7 @@ public final class PacketsTest {
     }
 
     private static void promise18Queued() {
-        Multidell net = Check.made(Nets::star);
+        Multidell net = Nets.made(Nets::star);
         for (int packet = 1; packet <= 22; packet++) {
             net.send(0, 0);
             Check.same("nine more each", 9 * packet, net.queued());
@@ -273,7 +241,7 @@ public final class PacketsTest {
     }
 
     private static void promise19NextTo() {
-        Multidell net = Check.made(Nets::chain);
+        Multidell net = Nets.made(Nets::chain);
         net.join(1, 0);
         Check.same("none", -1, net.nextTo());
         net.send(0, 0);
@@ -292,7 +260,7 @@ public final class PacketsTest {
     }
 
     private static void promise20Received() {
-        Multidell net = Check.made(Nets::chain);
+        Multidell net = Nets.made(Nets::chain);
         net.join(1, 0);
         net.join(2, 0);
         net.send(2, 0);
@@ -309,7 +277,7 @@ public final class PacketsTest {
     }
 
     private static void promise21Doubles() {
-        Multidell net = Check.made(Nets::chain);
+        Multidell net = Nets.made(Nets::chain);
         net.setLimit(1);
         net.join(1, 0);
         net.join(2, 0);
@@ -327,7 +295,7 @@ public final class PacketsTest {
         net.leave(1, 0);
         net.followAll();
         Check.same("1 is no member any more", 1, net.doubles(3));
-        Multidell again = Check.made(Nets::chain);
+        Multidell again = Nets.made(Nets::chain);
         again.join(1, 0);
         again.send(1, 0);
         again.leave(1, 0);
@@ -343,7 +311,7 @@ public final class PacketsTest {
     }
 
     private static void promise22Wasted() {
-        Multidell net = Check.made(Nets::star);
+        Multidell net = Nets.made(Nets::star);
         for (int packet = 0; packet < 22; packet++) {
             net.send(0, 0);
         }
@@ -363,15 +331,5 @@ public final class PacketsTest {
         net.follow();
         Check.same("not one that is passed on", 18, net.wasted());
         Check.same("the copies from 3 are queued", 199, net.queued());
-    }
-
-    private static void promises20And21Refuse() {
-        Class<? extends RuntimeException> index = IndexOutOfBoundsException.class;
-        for (int packet : new int[] {-1, 6, 7, 200, Integer.MIN_VALUE, Integer.MAX_VALUE}) {
-            Check.refused("received", index, Nets::lively, net -> net.received(packet));
-            Check.refused("doubles", index, Nets::lively, net -> net.doubles(packet));
-        }
-        Check.refused("received, none sent", index, net -> { }, net -> net.received(0));
-        Check.refused("doubles, none sent", index, net -> { }, net -> net.doubles(0));
     }
 }

@@ -1,7 +1,10 @@
-/** The questions that can be put to a network without changing it, and what is left of its queue. */
+/** The questions that tell two states of a network apart; asking may change the network that is asked. */
 final class Question {
-    private static final String[] NAMES = {"links' state", "rendezvous points", "members", "switched",
-        "branches", "source branches", "the queue", "packets", "time", "flooding", "later packets"};
+    private static final String[] NAMES = {"distances and next hops", "the costs of links",
+        "the limit and the candidates", "rendezvous points", "members", "switched", "branches",
+        "source branches of group 0", "source branches of group 1", "source branches of group 2",
+        "source branches of group 3", "the queue", "received", "doubles", "time", "flooding",
+        "later packets"};
 
     private Question() {
     }
@@ -17,37 +20,51 @@ final class Question {
     static String ask(Multidell net, int question) {
         StringBuilder told = new StringBuilder();
         switch (question) {
-            case 0 -> links(net, told);
-            case 1 -> rendezvous(net, told);
-            case 2 -> members(net, told);
-            case 3 -> switchedOnes(net, told);
-            case 4 -> branches(net, told);
-            case 5 -> sourceBranches(net, told);
-            case 6 -> queue(net, told);
-            case 7 -> packets(net, told);
-            case 8 -> time(net, told);
-            case 9 -> flooding(net, told);
+            case 0 -> routes(net, told);
+            case 1 -> costs(net, told);
+            case 2 -> limitAndCandidates(net, told);
+            case 3 -> rendezvous(net, told);
+            case 4 -> members(net, told);
+            case 5 -> switchedOnes(net, told);
+            case 6 -> branches(net, told);
+            case 7, 8, 9, 10 -> sourceBranches(net, question - 7, told);
+            case 11 -> queue(net, told);
+            case 12 -> received(net, told);
+            case 13 -> doubles(net, told);
+            case 14 -> time(net, told);
+            case 15 -> flooding(net, told);
             default -> laterPackets(net, told);
         }
         return told.toString();
     }
 
-    private static void links(Multidell net, StringBuilder told) {
+    private static void routes(Multidell net, StringBuilder told) {
         for (int router = 0; router < 10; router++) {
             for (int other = 0; other < 10; other++) {
                 told.append(net.distance(router, other)).append('/');
                 told.append(net.nextHop(router, other)).append(' ');
             }
         }
+    }
+
+    private static void costs(Multidell net, StringBuilder told) {
+        for (int router = 0; router < 10; router++) {
+            for (int other = 0; other < router; other++) {
+                told.append(net.setLink(router, other, 0)).append(' ');
+            }
+        }
+    }
+
+    private static void limitAndCandidates(Multidell net, StringBuilder told) {
         told.append(net.setLimit(3));
+        for (int router = 0; router < 10; router++) {
+            told.append(' ').append(net.setCandidate(router, true));
+        }
     }
 
     private static void rendezvous(Multidell net, StringBuilder told) {
         for (int group = 0; group < 4; group++) {
             told.append(net.rendezvous(group)).append(' ');
-        }
-        for (int router = 0; router < 10; router++) {
-            told.append(net.setCandidate(router, true)).append(' ');
         }
     }
 
@@ -74,12 +91,10 @@ final class Question {
         told.append(net.leaving());
     }
 
-    private static void sourceBranches(Multidell net, StringBuilder told) {
+    private static void sourceBranches(Multidell net, int group, StringBuilder told) {
         for (int router = 0; router < 10; router++) {
             for (int source = 0; source < 10; source++) {
-                for (int group = 0; group < 4; group++) {
-                    told.append(net.sourceBranches(router, source, group)).append(' ');
-                }
+                told.append(net.sourceBranches(router, source, group)).append(' ');
             }
         }
     }
@@ -92,11 +107,19 @@ final class Question {
         told.append(net.followAll()).append(' ').append(net.wasted());
     }
 
-    private static void packets(Multidell net, StringBuilder told) {
-        int sent = net.send(0, 0);
-        told.append(sent);
-        for (int packet = 0; packet < sent && packet < 150; packet++) {
-            told.append(' ').append(net.received(packet)).append('/').append(net.doubles(packet));
+    private static void received(Multidell net, StringBuilder told) {
+        for (int packet = 0; packet <= 200; packet++) {
+            int asked = packet;
+            String thrown = Check.nameOfThrown(() -> told.append(net.received(asked)).append(' '));
+            told.append(thrown.equals("nothing") ? "" : thrown.substring(0, 11));
+        }
+    }
+
+    private static void doubles(Multidell net, StringBuilder told) {
+        for (int packet = 0; packet <= 200; packet++) {
+            int asked = packet;
+            String thrown = Check.nameOfThrown(() -> told.append(net.doubles(asked)).append(' '));
+            told.append(thrown.equals("nothing") ? "" : thrown.substring(0, 11));
         }
     }
 
@@ -116,11 +139,14 @@ final class Question {
         }
     }
 
-    // What a member counts, and the limit, show only in whether it switches later on.
+    // What a member counts shows only in whether it switches later on.
     private static void laterPackets(Multidell net, StringBuilder told) {
         for (int group = 0; group < 4; group++) {
             for (int source = 0; source < 10; source++) {
-                told.append(net.send(source, group)).append('/').append(net.followAll()).append('/');
+                int itsSource = source;
+                int itsGroup = group;
+                told.append(Check.nameOfThrown(() -> told.append(net.send(itsSource, itsGroup))));
+                told.append('/').append(net.followAll()).append('/');
                 told.append(net.switched(source, group)).append(' ');
             }
         }

@@ -32,6 +32,7 @@ public final class RandomRunsTest {
     private final int links;
     private final int wildness;
     private final int haste;
+    private final boolean sendsMuch;
     private int sent;
     private boolean wrong;
 
@@ -42,6 +43,7 @@ public final class RandomRunsTest {
         links = routers + random.nextInt(routers * 2);
         wildness = random.nextInt(12);
         haste = 1 + random.nextInt(6);
+        sendsMuch = random.nextInt(4) == 0;
     }
 
     public static void main(String[] args) {
@@ -49,7 +51,7 @@ public final class RandomRunsTest {
             new RandomRunsTest(seed).run();
         }
         for (String due : new String[] {"follow 0", "follow 1", "follow 2", "follow 3", "follow 4",
-            "queue was full", "some switched", "some doubles", "branches went", "some wasted",
+            "queue was full", "200 packets sent", "some switched", "some doubles", "branches went", "some wasted",
             "no rendezvous point", "throws java.lang.IllegalStateException",
             "throws java.lang.IllegalArgumentException", "throws java.lang.IndexOutOfBoundsException"}) {
             Check.same("the runs met: " + due, true, SEEN.getOrDefault(due, 0) >= 50);
@@ -93,7 +95,9 @@ public final class RandomRunsTest {
 
     private void step() {
         int kind = random.nextInt(100);
-        if (kind < 4 + wildness) {
+        if (sendsMuch && random.nextInt(2) == 0) {
+            call("send");
+        } else if (kind < 4 + wildness) {
             call(random.nextInt(3) == 0 ? "setCandidate" : "setLink");
         } else if (kind < 28) {
             call(random.nextBoolean() ? "join" : "leave");
@@ -171,6 +175,7 @@ public final class RandomRunsTest {
     private void note(String name, String answer) {
         if (answer.startsWith("throws")) {
             seen(answer);
+            seenIf(name.equals("send") && answer.endsWith("IllegalStateException"), "200 packets sent");
             return;
         }
         seenIf(model.queued() == 200, "queue was full");

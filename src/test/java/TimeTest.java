@@ -8,13 +8,12 @@ public final class TimeTest {
         promise23PassOneSecondAtATime();
         promise23PassSpans();
         promise23PassLongSpans();
-        promise23PassRefuses();
         promise24Clock();
         Check.end();
     }
 
     private static void promise23PassLetsBranchesGo() {
-        Multidell net = Check.made(Nets::chain);
+        Multidell net = Nets.made(Nets::chain);
         net.join(3, 0);
         Check.same("wanted ones stay", 0, net.pass(100));
         net.leave(3, 0);
@@ -36,7 +35,7 @@ public final class TimeTest {
     }
 
     private static void promise23PassOneSecondAtATime() {
-        Multidell net = Check.made(Nets::star);
+        Multidell net = Nets.made(Nets::star);
         net.leave(1, 0);
         Check.same("first second", 0, net.pass(1));
         net.leave(2, 0);
@@ -51,54 +50,40 @@ public final class TimeTest {
     }
 
     private static void promise23PassSpans() {
-        Multidell net = Check.made(Nets::chain);
+        Multidell net = Nets.made(Nets::chain);
         net.join(1, 0);
         net.pass(8);
-        sendFollowed(net, 2);
+        Nets.sendFollowed(net, 2, 0, 2);
         net.pass(1);
         Check.same("nine seconds", 9, net.clock());
         net.pass(1);
-        sendFollowed(net, 2);
+        Nets.sendFollowed(net, 2, 0, 2);
         Check.same("a span begins at 10", 0, net.switched(2, 0));
         net.pass(9);
         Check.same("19 seconds", 19, net.clock());
-        sendFollowed(net, 1);
+        Nets.sendFollowed(net, 2, 0, 1);
         Check.same("three from 10 to 19", Check.set(1), net.switched(2, 0));
     }
 
     private static void promise23PassLongSpans() {
-        Multidell net = Check.made(Nets::chain);
+        Multidell net = Nets.made(Nets::chain);
         net.join(1, 0);
-        sendFollowed(net, 2);
+        Nets.sendFollowed(net, 2, 0, 2);
         net.pass(100);
-        sendFollowed(net, 2);
+        Nets.sendFollowed(net, 2, 0, 2);
         Check.same("another span", 0, net.switched(2, 0));
         net.pass(15);
-        sendFollowed(net, 2);
+        Nets.sendFollowed(net, 2, 0, 2);
         Check.same("yet another span", 0, net.switched(2, 0));
         net.pass(4);
-        sendFollowed(net, 1);
+        Nets.sendFollowed(net, 2, 0, 1);
         Check.same("the same span", Check.set(1), net.switched(2, 0));
         net.pass(100);
         Check.same("switched stays", Check.set(1), net.switched(2, 0));
     }
 
-    private static void sendFollowed(Multidell net, int packets) {
-        for (int packet = 0; packet < packets; packet++) {
-            net.send(2, 0);
-            net.followAll();
-        }
-    }
-
-    private static void promise23PassRefuses() {
-        for (int seconds : new int[] {0, -1, 101, Integer.MIN_VALUE, Integer.MAX_VALUE}) {
-            Check.refused("pass", IllegalArgumentException.class, Nets::lively,
-                    net -> net.pass(seconds));
-        }
-    }
-
     private static void promise24Clock() {
-        Multidell net = Check.made(Nets::lively);
+        Multidell net = Nets.made(Nets::lively);
         Check.same("one second", 1, net.clock());
         net.pass(1);
         net.pass(100);

@@ -14,12 +14,11 @@ public final class TreesTest {
         promise14LeavingOnlyWhenNotNeeded();
         promise14LeavingKeepsItsSecond();
         promise14LeavingEdges();
-        promises12And13Refuse();
         Check.end();
     }
 
     private static void promise12Branches() {
-        Multidell net = Check.made(Nets::star);
+        Multidell net = Nets.made(Nets::star);
         Check.same("to all others", 1022, net.branches(0, 0));
         Check.same("none beyond", 0, net.branches(5, 0));
         Check.same("another group", 0, net.branches(0, 1));
@@ -30,7 +29,7 @@ public final class TreesTest {
     }
 
     private static void promise12BranchesLeavingToo() {
-        Multidell net = Check.made(Nets::chain);
+        Multidell net = Nets.made(Nets::chain);
         net.join(1, 0);
         net.leave(1, 0);
         Check.same("leaving too", Check.set(1), net.branches(0, 0));
@@ -41,7 +40,7 @@ public final class TreesTest {
     }
 
     private static void promise12BranchesWithoutTree() {
-        Multidell net = Check.made(Nets::chain);
+        Multidell net = Nets.made(Nets::chain);
         net.setCandidate(0, false);
         net.join(3, 0);
         for (int router = 0; router < 10; router++) {
@@ -72,7 +71,7 @@ public final class TreesTest {
     }
 
     private static void promise13SourceBranches() {
-        Multidell net = Check.made(Nets::chain);
+        Multidell net = Nets.made(Nets::chain);
         net.setLimit(1);
         net.join(3, 2);
         net.send(1, 2);
@@ -90,7 +89,7 @@ public final class TreesTest {
     }
 
     private static void promise13SourceBranchesLeavingToo() {
-        Multidell net = Check.made(Nets::chain);
+        Multidell net = Nets.made(Nets::chain);
         net.setLimit(1);
         net.join(3, 2);
         net.send(1, 2);
@@ -106,7 +105,7 @@ public final class TreesTest {
     }
 
     private static void promise14Leaving() {
-        Multidell net = Check.made(Nets::star);
+        Multidell net = Nets.made(Nets::star);
         for (int router = 1; router < 10; router++) {
             net.join(router, 1);
         }
@@ -127,7 +126,7 @@ public final class TreesTest {
     }
 
     private static void promise14LeavingOnlyWhenNotNeeded() {
-        Multidell net = Check.made(Nets::chain);
+        Multidell net = Nets.made(Nets::chain);
         net.join(2, 0);
         net.join(3, 0);
         net.leave(2, 0);
@@ -150,7 +149,7 @@ public final class TreesTest {
     }
 
     private static void promise14LeavingKeepsItsSecond() {
-        Multidell net = Check.made(Nets::chain);
+        Multidell net = Nets.made(Nets::chain);
         net.join(1, 0);
         net.leave(1, 0);
         net.pass(2);
@@ -192,22 +191,6 @@ public final class TreesTest {
                 Check.same("the first and the last router", 2, net.leaving());
                 Check.same("both go", 2, net.pass(3));
             }
-        }
-    }
-
-    private static void promises12And13Refuse() {
-        Class<? extends RuntimeException> index = IndexOutOfBoundsException.class;
-        for (int none : Check.noRouters()) {
-            Check.refused("branches, router", index, Nets::lively, net -> net.branches(none, 0));
-            Check.refused("sourceBranches, router", index, Nets::lively,
-                    net -> net.sourceBranches(none, 0, 0));
-            Check.refused("sourceBranches, source", index, Nets::lively,
-                    net -> net.sourceBranches(0, none, 0));
-        }
-        for (int none : Check.noGroups()) {
-            Check.refused("branches, group", index, Nets::lively, net -> net.branches(0, none));
-            Check.refused("sourceBranches, group", index, Nets::lively,
-                    net -> net.sourceBranches(0, 0, none));
         }
     }
 }

@@ -120,7 +120,7 @@ public final class FloodEdgesTest {
     }
 
     private static void promise26OverAllItsOtherLinks() {
-        Check.sentence(26, "each router that gets it from its next hop to the source sends it over all its other links");
+        Check.sentence(26, "each router that gets it .. sends it over all its other links");
         Multidell net = Nets.made(Nets::longChain);
         Check.same("nine steps", 9, net.floodCopies(0));
         Check.same("two ways", 9, net.floodCopies(4));

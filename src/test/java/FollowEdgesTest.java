@@ -258,7 +258,7 @@ public final class FollowEdgesTest {
     }
 
     private static void promise16SourceTreeIsChecked() {
-        Check.sentence(16, "is not the next hop, now, from the router that it comes to, to the root of the tree");
+        Check.sentence(16, "the next hop, now, from the router that it comes to, to the root of the tree");
         Multidell net = onlySourceTree();
         net.send(1, 0);
         net.follow();

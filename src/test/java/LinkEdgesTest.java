@@ -575,7 +575,7 @@ public final class LinkEdgesTest {
     // No two remainders of a group are the same, as 997 is a prime number: "of several the one with the
     // lowest number" never comes to bear.
     private static void promise7GreatestRemainderOfAll() {
-        Check.sentence(7, "the candidate c with the greatest remainder of (31 * g + 17) * (53 * c + 29) by 997");
+        Check.sentence(7, "the greatest remainder of (31 * g + 17) * (53 * c + 29) by 997");
         for (int group = 0; group < 4; group++) {
             for (int one = 0; one < 10; one++) {
                 Multidell net = new Multidell();

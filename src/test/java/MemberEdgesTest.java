@@ -449,7 +449,7 @@ public final class MemberEdgesTest {
     }
 
     private static void promise11AsTheRoot() {
-        Check.sentence(11, "A member that receives a packet through the shared tree, or as its root, counts it");
+        Check.sentence(11, "A member that receives a packet .. as its root, counts it");
         Multidell net = Nets.made(Nets::chain);
         net.join(0, 0);
         net.send(3, 0);

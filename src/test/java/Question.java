@@ -1,3 +1,5 @@
+import java.util.function.IntUnaryOperator;
+
 /** The questions that tell two states of a network apart; asking may change the network that is asked. */
 final class Question {
     private static final String[] NAMES = {"distances and next hops", "the costs of links",
@@ -29,8 +31,8 @@ final class Question {
             case 6 -> branches(net, told);
             case 7, 8, 9, 10 -> sourceBranches(net, question - 7, told);
             case 11 -> queue(net, told);
-            case 12 -> received(net, told);
-            case 13 -> doubles(net, told);
+            case 12 -> ofEachPacket(net::received, told);
+            case 13 -> ofEachPacket(net::doubles, told);
             case 14 -> time(net, told);
             case 15 -> flooding(net, told);
             default -> laterPackets(net, told);
@@ -107,19 +109,11 @@ final class Question {
         told.append(net.followAll()).append(' ').append(net.wasted());
     }
 
-    private static void received(Multidell net, StringBuilder told) {
+    private static void ofEachPacket(IntUnaryOperator asking, StringBuilder told) {
         for (int packet = 0; packet <= 200; packet++) {
             int asked = packet;
-            String thrown = Check.nameOfThrown(() -> told.append(net.received(asked)).append(' '));
-            told.append(thrown.equals("nothing") ? "" : thrown.substring(0, 11));
-        }
-    }
-
-    private static void doubles(Multidell net, StringBuilder told) {
-        for (int packet = 0; packet <= 200; packet++) {
-            int asked = packet;
-            String thrown = Check.nameOfThrown(() -> told.append(net.doubles(asked)).append(' '));
-            told.append(thrown.equals("nothing") ? "" : thrown.substring(0, 11));
+            String thrown = Check.nameOfThrown(() -> told.append(asking.applyAsInt(asked)));
+            told.append(thrown.equals("nothing") ? " " : "none ");
         }
     }
 

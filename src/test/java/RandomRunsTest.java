@@ -51,8 +51,8 @@ public final class RandomRunsTest {
             new RandomRunsTest(seed).run();
         }
         for (String due : new String[] {"follow 0", "follow 1", "follow 2", "follow 3", "follow 4",
-            "queue was full", "200 packets sent", "some switched", "some doubles", "branches went", "some wasted",
-            "no rendezvous point", "throws java.lang.IllegalStateException",
+            "queue was full", "200 packets sent", "some switched", "some doubles", "branches went",
+            "some wasted", "no rendezvous point", "throws java.lang.IllegalStateException",
             "throws java.lang.IllegalArgumentException", "throws java.lang.IndexOutOfBoundsException"}) {
             Check.same("the runs met: " + due, true, SEEN.getOrDefault(due, 0) >= 50);
         }

@@ -550,7 +550,7 @@ public final class SendEdgesTest {
         net.join(2, 0);
         net.send(2, 0);
         net.followAll();
-        Check.same("1 got it, but never was one", 1, net.doubles(1));
+        Check.same("the source's own: 1 got it as well, but is no member", 1, net.doubles(1));
         net.join(3, 0);
         net.send(3, 0);
         net.leave(3, 0);

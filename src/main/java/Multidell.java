@@ -582,19 +582,13 @@ public final class Multidell {
 
         int removeDue(int second) {
             int gone = 0;
-            for (int tree = 0; tree < TREES; tree++) {
-                for (int router = 0; router < ROUTERS; router++) {
-                    if (isDue(tree, router, second)) {
-                        remove(tree, router, second);
-                        gone++;
-                    }
+            for (int place = 0; place < TREES * ROUTERS; place++) {
+                if (goesAt[place] == second) {
+                    remove(place / ROUTERS, place % ROUTERS, second);
+                    gone++;
                 }
             }
             return gone;
-        }
-
-        private boolean isDue(int tree, int router, int second) {
-            return parentOf(tree, router) != NONE && goesAt[tree * ROUTERS + router] == second;
         }
 
         private void remove(int tree, int router, int second) {
